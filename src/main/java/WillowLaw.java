@@ -546,7 +546,9 @@ public final class WillowLaw {
         static final int WORD = 1;
         static final int NUMBER = 2;
         static final int STOP = 3;
-        static final int NOT_ANY = 4;
+        private static final int BLANK = 4;
+        private static final int NOT_ANY = 5;
+        private static final int DIGITS = 2;
 
         final byte[] tape;
         int length;
@@ -565,60 +567,59 @@ public final class WillowLaw {
             advance();
         }
 
-        private int byteAt(int i) {
-            return i >= 0 && i < length ? tape[i] : -1;
-        }
-
-        private boolean letterAt(int i) {
-            int is = byteAt(i);
-            return is >= 'a' && is <= 'z';
-        }
-
-        private boolean digitAt(int i) {
-            int is = byteAt(i);
-            return is >= '0' && is <= '9';
-        }
-
-        private boolean blankAt(int i) {
-            int is = byteAt(i);
-            return is == 10 || is == 32;
+        /** Of which kind of TOKEN a byte can be a part. */
+        private int kindAt(int i) {
+            if (i < 0 || i >= length) {
+                return END;
+            }
+            byte is = tape[i];
+            if (is >= 'a' && is <= 'z') {
+                return WORD;
+            }
+            if (is >= '0' && is <= '9') {
+                return NUMBER;
+            }
+            if (is == ';') {
+                return STOP;
+            }
+            return is == 10 || is == 32 ? BLANK : NOT_ANY;
         }
 
         void advance() {
-            while (behind < length && blankAt(behind)) {
+            while (behind < length && kindAt(behind) == BLANK) {
                 behind++;
             }
             first = behind;
-            if (first >= length) {
-                kind = END;
-            } else if (letterAt(first)) {
-                kind = WORD;
-                while (behind < length && letterAt(behind)) {
-                    behind++;
-                }
-            } else if (digitAt(first)) {
-                takeDigits();
-            } else {
-                kind = byteAt(first) == ';' ? STOP : NOT_ANY;
+            kind = kindAt(first);
+            if (kind != END) {
                 behind++;
+            }
+            boolean row = kind == WORD || kind == NUMBER;
+            while (row && behind < length && kindAt(behind) == kind) {
+                behind++;
+            }
+            if (kind == NUMBER) {
+                takeNumber();
             }
         }
 
-        private void takeDigits() {
-            number = 0;
-            while (behind < length && digitAt(behind)) {
-                number = number * 10 + (byteAt(behind) - '0');
-                behind++;
+        private void takeNumber() {
+            if (behind - first > DIGITS) {
+                kind = NOT_ANY;
+                return;
             }
-            kind = behind - first <= 2 ? NUMBER : NOT_ANY;
+            number = 0;
+            for (int i = first; i < behind && i < length; i++) {
+                number = 10 * number + (tape[i] - '0');
+            }
         }
 
         boolean isWord(String word) {
-            if (kind != WORD || word.length() != behind - first) {
+            if (kind != WORD || word.length() != behind - first || behind > length) {
                 return false;
             }
             for (int i = 0; i < word.length(); i++) {
-                if (word.charAt(i) != byteAt(first + i)) {
+                if (word.charAt(i) != tape[first + i]) {
                     return false;
                 }
             }
@@ -657,32 +658,28 @@ public final class WillowLaw {
             parish.begin();
             clues.begin();
             tokens.begin(length);
-            // A line has two bytes at least.
+            // Each line takes bytes, so there are fewer lines than bytes.
             for (int line = 0; line < TAPE && goesOn() && tokens.kind != Tokens.END; line++) {
-                readLine(sort);
+                switch (sort) {
+                    case BASKETS:
+                        readBasketLine();
+                        break;
+                    case YEARS:
+                        readYearLine();
+                        break;
+                    case PARISHES:
+                        readParishLine();
+                        break;
+                    default:
+                        readCluesLine();
+                        break;
+                }
                 readStop();
             }
             if (sort == BASKETS) {
                 lookForAll(basket.wide, basket.high);
             } else if (sort == CLUE_TEXTS) {
                 lookForAll(clues.wide, clues.high);
-            }
-        }
-
-        private void readLine(int sort) {
-            switch (sort) {
-                case BASKETS:
-                    readBasketLine();
-                    break;
-                case YEARS:
-                    readYearLine();
-                    break;
-                case PARISHES:
-                    readParishLine();
-                    break;
-                default:
-                    readCluesLine();
-                    break;
             }
         }
 
@@ -775,27 +772,27 @@ public final class WillowLaw {
             if (clues.many >= Clues.MOST) {
                 note(TOO_MANY, tokens.first);
             }
+            int kind = readClueWord();
+            boolean ofStroke = kind == Clues.OPEN || kind == Clues.SHUT;
+            int a = ofStroke ? readColumn() : readNumber(1, SIDE);
+            int b = ofStroke ? readRow() : readNumber(1, SIDE);
+            clues.add(kind, a, b);
+        }
+
+        private int readClueWord() {
             if (readWord("open")) {
-                readStrokeClue(Clues.OPEN);
-            } else if (readWord("shut")) {
-                readStrokeClue(Clues.SHUT);
-            } else if (readWord("slips")) {
-                readSizeClue(Clues.SLIPS);
-            } else if (readWord("held")) {
-                readSizeClue(Clues.HELD);
-            } else {
+                return Clues.OPEN;
+            }
+            if (readWord("shut")) {
+                return Clues.SHUT;
+            }
+            if (readWord("slips")) {
+                return Clues.SLIPS;
+            }
+            if (!readWord("held")) {
                 refuse();
             }
-        }
-
-        private void readStrokeClue(int kind) {
-            int column = readColumn();
-            clues.add(kind, column, readRow());
-        }
-
-        private void readSizeClue(int kind) {
-            int width = readNumber(1, SIDE);
-            clues.add(kind, width, readNumber(1, SIDE));
+            return Clues.HELD;
         }
 
         private int readColumn() {
@@ -824,10 +821,7 @@ public final class WillowLaw {
 
         /** A NUMBER; the least one that can be, where none is or one that can't be, so that rows stay within bounds. */
         private int readNumber(int least, int most) {
-            if (!goesOn()) {
-                return least;
-            }
-            if (tokens.kind != Tokens.NUMBER) {
+            if (!goesOn() || tokens.kind != Tokens.NUMBER) {
                 refuse();
                 return least;
             }
@@ -849,7 +843,7 @@ public final class WillowLaw {
         }
 
         private void refuse() {
-            if (goesOn()) {
+            if (flaw != NO_TEXT) {
                 flaw = NO_TEXT;
                 place = tokens.first;
             }
@@ -876,9 +870,11 @@ public final class WillowLaw {
         private static final long LAST_COLUMN = 0x8080808080808080L;
         static final int AT_FIRST = 6;
         private static final int THICK_AT_FIRST = 2;
+        private static final int CORNERS = SIDE + 1;
 
         final int[] thick = new int[2 * SIDE];
         final int[] wear = new int[2 * SIDE];
+        final int[] sums = new int[CORNERS * CORNERS];
         int wide = AT_FIRST;
         int high = AT_FIRST;
         boolean wet;
@@ -952,7 +948,8 @@ public final class WillowLaw {
 
         /** STRENGTH in a row and a column; an OPEN STROKE has none. */
         private int strengthIn(int row, int column) {
-            if (row < 0 || row >= SIDE || column < 0 || column >= SIDE || isOpen(row, column)) {
+            boolean there = row >= 0 && row < SIDE && column >= 0 && column < SIDE;
+            if (!there || (open >>> (SIDE * row + column) & 1) != 0) {
                 return 0;
             }
             int stake = SIDE + column;
@@ -1031,19 +1028,37 @@ public final class WillowLaw {
 
         /** The first rectangle of a size whose STRENGTH is least. */
         int softest(int width, int height) {
+            sumUp();
             int best = NONE;
             int least = 0;
             for (int row = 0; row + height <= high; row++) {
                 for (int column = 0; column + width <= wide; column++) {
-                    int place = wide * row + column;
-                    int is = strengthOfRectangle(place, width, height);
+                    int is = sumTo(row + height, column + width) - sumTo(row + height, column)
+                        - sumTo(row, column + width) + sumTo(row, column);
                     if (best == NONE || is < least) {
-                        best = place;
+                        best = wide * row + column;
                         least = is;
                     }
                 }
             }
             return best;
+        }
+
+        /** All rectangles of a size are looked at: from these sums each is told by its four corners. */
+        private void sumUp() {
+            for (int row = 0; row < high && row < SIDE; row++) {
+                int line = 0;
+                for (int column = 0; column < wide && column < SIDE; column++) {
+                    line += strengthIn(row, column);
+                    sums[CORNERS * (row + 1) + column + 1] = sumTo(row, column + 1) + line;
+                }
+            }
+        }
+
+        /** STRENGTHS of all STROKES above a row and left of a column, as sumUp() found them. */
+        private int sumTo(int row, int column) {
+            int at = CORNERS * row + column;
+            return at >= 0 && at < sums.length ? sums[at] : 0;
         }
 
         /** HOLD of a size; NONE if it SLIPS, or is wider or higher. */
@@ -1271,15 +1286,16 @@ public final class WillowLaw {
             return done;
         }
 
-        boolean happens(Year year, int k) {
-            return year.has(k) && act(year.part(k, 0), year.part(k, 1), year.part(k, 2), year.part(k, 3));
-        }
-
         /** False, and nothing changes, if the DEED can't be. */
-        private boolean act(int kind, int a, int b, int c) {
-            switch (kind) {
+        boolean happens(Year year, int k) {
+            if (!year.has(k)) {
+                return false;
+            }
+            int a = year.part(k, 1);
+            int b = year.part(k, 2);
+            switch (year.part(k, 0)) {
                 case Year.DEED:
-                    strike(a, b, c);
+                    strike(a, b, year.part(k, 3));
                     return true;
                 case Year.MEND:
                     return mend(a, b);
@@ -1381,7 +1397,9 @@ public final class WillowLaw {
                     turn(!basket.wet);
                     break;
                 default:
-                    drawStrike();
+                    int width = drawBelow(4) + 1;
+                    int height = drawBelow(4) + 1;
+                    strike(width, height, drawBelow(40));
                     break;
             }
         }
@@ -1389,12 +1407,6 @@ public final class WillowLaw {
         private void drawWeave() {
             int stroke = drawBelow(basket.wide * basket.high);
             weave(basket.columnOf(stroke), basket.rowOf(stroke));
-        }
-
-        private void drawStrike() {
-            int width = drawBelow(4) + 1;
-            int height = drawBelow(4) + 1;
-            strike(width, height, drawBelow(40));
         }
 
         private int drawBelow(int n) {
@@ -1781,7 +1793,8 @@ public final class WillowLaw {
         /** The first row by numbers of those who have the RODS, by which the one with most has least. */
         void divide(Parish parish, int n) {
             int rows = 1;
-            for (int i = 0; i < parish.rods && i < Parish.RODS; i++) {
+            // Who has ROD 0 can always be the first one: rows that begin otherwise are none the better, and later.
+            for (int i = 1; i < parish.rods && i < Parish.RODS; i++) {
                 rows *= n;
             }
             int best = 0;
@@ -1904,19 +1917,20 @@ public final class WillowLaw {
         int fit;
         int wanted;
         int found;
+        boolean tallies;
 
         int howMany(Clues clues) {
-            look(clues, NONE);
+            look(clues, NONE, false);
             return fit;
         }
 
         int gapAt(Clues clues, int k) {
-            look(clues, k);
+            look(clues, k, false);
             return found == NONE ? NO_SUCH : found;
         }
 
         int sureOf(Clues clues, int stroke) {
-            look(clues, NONE);
+            look(clues, NONE, true);
             if (fit == 0 || stroke < 0 || stroke >= STROKES) {
                 return NONE;
             }
@@ -1927,7 +1941,7 @@ public final class WillowLaw {
         }
 
         int bestAsked(Clues clues) {
-            look(clues, NONE);
+            look(clues, NONE, true);
             int best = NONE;
             int least = 0;
             int strokes = fit == 0 ? 0 : clues.wide * clues.high;
@@ -1941,11 +1955,12 @@ public final class WillowLaw {
             return best;
         }
 
-        /** Goes through all rectangles by their numbers: counts those that FIT, finds the k-th. */
-        private void look(Clues clues, int k) {
+        /** Goes through all rectangles by their numbers: counts those that FIT, finds the k-th, and of each STROKE in how many it is OPEN. */
+        private void look(Clues clues, int k, boolean byStrokes) {
             fit = 0;
             wanted = k;
             found = NONE;
+            tallies = byStrokes;
             for (int i = 0; i < STROKES; i++) {
                 openIn[i] = 0;
             }
@@ -1965,7 +1980,9 @@ public final class WillowLaw {
                             found = 512 * (height - 1) + 64 * (width - 1) + corner;
                         }
                         fit++;
-                        tally(clues.wide, corner, width, height);
+                        if (tallies) {
+                            tally(clues.wide, corner, width, height);
+                        }
                     }
                 }
             }
