@@ -5,9 +5,28 @@ final class Due {
     private final String test;
     private int wrong = 0;
     private int looked = 0;
+    private int sentences = 0;
+    private String sentence = "";
+    private int lookedBefore = 0;
 
     Due(String test) {
         this.test = test;
+    }
+
+    /** The promise or the Term, and the words of the document, that the answers from here on are due by. */
+    void sentence(String where, String words) {
+        closeSentence();
+        sentences++;
+        sentence = where + ": '" + words + "': ";
+    }
+
+    /** A sentence without an answer would be no test at all. */
+    private void closeSentence() {
+        if (!sentence.isEmpty() && looked == lookedBefore) {
+            wrong++;
+            System.out.println(test + ": " + sentence + "nothing was asked");
+        }
+        lookedBefore = looked;
     }
 
     void is(String call, long got, long want) {
@@ -15,7 +34,7 @@ final class Due {
         if (got != want) {
             wrong++;
             if (wrong <= 40) {
-                System.out.println(test + ": " + call + " answered " + got + ", due is " + want);
+                System.out.println(test + ": " + sentence + call + " answered " + got + ", due is " + want);
             }
         }
     }
@@ -24,8 +43,24 @@ final class Due {
         is(call, got ? 1 : 0, want ? 1 : 0);
     }
 
+    /** What a new object answers to a text of a sort: its FAULT and the place, 0 and NONE without. */
+    void fault(int sort, String text, int fault, int place) {
+        WillowLaw x = new WillowLaw();
+        String call = "'" + text + "' of sort " + sort;
+        is(call, text(x, sort, -1, text), fault == 0 ? 0 : -1);
+        is(call + " FAULT", x.fault(0), fault);
+        is(call + " place", x.fault(1), place);
+        is(call + " count", x.count(sort), fault == 0 ? 1 : 0);
+    }
+
+    void noFault(int sort, String text) {
+        fault(sort, text, 0, WillowLaw.NONE);
+    }
+
     void finish() {
-        System.out.println(test + ": " + looked + " answers, " + wrong + " wrong");
+        closeSentence();
+        String of = sentences == 0 ? "" : " to " + sentences + " sentences";
+        System.out.println(test + ": " + looked + " answers" + of + ", " + wrong + " wrong");
         if (wrong != 0 || looked == 0) {
             System.exit(1);
         }

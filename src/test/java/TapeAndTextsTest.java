@@ -70,14 +70,7 @@ public final class TapeAndTextsTest {
     }
 
     private static void faultOf(int sort, String text, int fault, int place) {
-        WillowLaw x = new WillowLaw();
-        String call = "5: '" + text + "' of sort " + sort;
-        DUE.is(call, Due.text(x, sort, -1, text), fault == 0 ? 0 : -1);
-        DUE.is(call + " FAULT", x.fault(0), fault);
-        DUE.is(call + " place", x.fault(1), place);
-        DUE.is(call + " count", x.count(sort), fault == 0 ? 1 : 0);
-        DUE.is("5: fault(2)", x.fault(2), -1);
-        DUE.is("5: fault(-1)", x.fault(-1), -1);
+        DUE.fault(sort, text, fault, place);
     }
 
     private static void noText() {
