@@ -78,35 +78,57 @@ public final class BasketEdgesTest {
 
     // ---- a BASKET that is not there ----
 
-    private static long[] minusTwo(WillowLaw x, int b) {
-        return new long[] {x.basket(b, 0), x.slips(b, 1, 1, false), x.slips(b, 1, 1, true), x.unlike(b, 0, false),
-            x.unlike(0, b, false), x.unlike(b, 0, true), x.unlike(0, b, true), x.unlike(b, b, true)};
-    }
-
-    private static long[] none(WillowLaw x, int b) {
-        return new long[] {x.opens(b, 1, 1, false), x.opens(b, 1, 1, true), x.closes(b, 1, 1, -1), x.closes(b, 1, 1, 0),
-            x.sieve(b, 1, 1, 2, 2), x.escape(b, 0, false), x.escape(b, 0, true), x.holes(b, 0), x.holes(b, 1), x.holes(b, 2),
-            x.last(b, 0, 0), x.last(b, 0, 1), x.last(b, 0, 2), x.stout(b, 1, 1, false), x.stout(b, 1, 1, true),
-            x.soft(b, 1, false), x.soft(b, 1, true), x.tunnel(b, 0, 0), x.mirrored(b, 0), x.mirrored(b, 1), x.mirrored(b, 2)};
+    private static long[] answers(WillowLaw x, int promise, int b) {
+        switch (promise) {
+            case 6:
+                return new long[] {x.basket(b, 0), x.basket(b, 3), x.basket(b, 10), x.basket(b, 100)};
+            case 7:
+                return new long[] {x.slips(b, 1, 1, false), x.slips(b, 1, 1, true)};
+            case 11:
+                return new long[] {x.opens(b, 1, 1, false), x.opens(b, 1, 1, true)};
+            case 12:
+                return new long[] {x.closes(b, 1, 1, -1), x.closes(b, 1, 1, 0)};
+            case 13:
+                return new long[] {x.sieve(b, 1, 1, 2, 2)};
+            case 14:
+                return new long[] {x.escape(b, 0, false), x.escape(b, 0, true)};
+            case 15:
+                return new long[] {x.holes(b, 0), x.holes(b, 1), x.holes(b, 2)};
+            case 16:
+                return new long[] {x.last(b, 0, 0), x.last(b, 0, 1), x.last(b, 0, 2)};
+            case 17:
+                return new long[] {x.unlike(b, 0, false), x.unlike(0, b, false), x.unlike(b, b, false), x.unlike(b, 0, true),
+                    x.unlike(0, b, true), x.unlike(b, b, true)};
+            case 25:
+                return new long[] {x.stout(b, 1, 1, false), x.stout(b, 1, 1, true)};
+            case 26:
+                return new long[] {x.soft(b, 1, false), x.soft(b, 1, true)};
+            case 27:
+                return new long[] {x.tunnel(b, 0, 0)};
+            default:
+                return new long[] {x.mirrored(b, 0), x.mirrored(b, 1), x.mirrored(b, 2)};
+        }
     }
 
     private static void noBasket() {
-        DUE.sentence("Promises 6, 7, 11 to 17, 25 to 28", "there is none such");
-        for (int many = 0; many < 3; many++) {
-            WillowLaw x = new WillowLaw();
-            for (int i = 0; i < many; i++) {
-                x.text(0, -1);
-            }
-            int[] at = {-1, -2, many, many + 1, 2, LEAST, MOST};
-            for (int b : at) {
-                for (long is : minusTwo(x, b)) {
-                    DUE.is("-2 of BASKET " + b + " of " + many, is, -2);
+        int[] promises = {6, 7, 11, 12, 13, 14, 15, 16, 17, 25, 26, 27, 28};
+        for (int promise : promises) {
+            DUE.sentence("Promise " + promise, "there is none such");
+            int due = promise == 6 || promise == 7 || promise == 17 ? -2 : -1;
+            for (int many = 0; many < 3; many++) {
+                WillowLaw x = new WillowLaw();
+                for (int i = 0; i < many; i++) {
+                    x.text(0, -1);
                 }
-                for (long is : none(x, b)) {
-                    DUE.is("NONE of BASKET " + b + " of " + many, is, -1);
+                int[] at = {-1, -2, many, many + 1, 2, LEAST, MOST};
+                for (int b : at) {
+                    for (long is : answers(x, promise, b)) {
+                        DUE.is("BASKET " + b + " of " + many, is, due);
+                    }
                 }
             }
         }
+        DUE.sentence("Term 1", "BASKETS, at most 2 (sort 0), from 0 on");
         WillowLaw x = with(2, 2, 0);
         x.text(0, -1);
         DUE.is("BASKET 1 is there", x.basket(1, 0), 6);
@@ -116,33 +138,46 @@ public final class BasketEdgesTest {
 
     // ---- another size ----
 
-    private static void sizesAreDue(WillowLaw x, int w, int h) {
-        String of = "(0, " + w + ", " + h + ")";
-        DUE.is("slips" + of, x.slips(0, w, h, false), -2);
-        DUE.is("slips, hold" + of, x.slips(0, w, h, true), -2);
-        DUE.is("opens" + of, x.opens(0, w, h, false), -1);
-        DUE.is("opens, place" + of, x.opens(0, w, h, true), -1);
-        DUE.is("closes" + of, x.closes(0, w, h, -1), -1);
-        DUE.is("closes, 0" + of, x.closes(0, w, h, 0), -1);
-        DUE.is("sieve" + of, x.sieve(0, w, h, 8, 8), -1);
-        DUE.is("sieve, the other one" + of, x.sieve(0, 1, 1, w, h), -1);
-        DUE.is("stout" + of, x.stout(0, w, h, false), -1);
-        DUE.is("stout, hold" + of, x.stout(0, w, h, true), -1);
+    private static long[] answersTo(WillowLaw x, int promise, int w, int h) {
+        switch (promise) {
+            case 7:
+                return new long[] {x.slips(0, w, h, false), x.slips(0, w, h, true)};
+            case 11:
+                return new long[] {x.opens(0, w, h, false), x.opens(0, w, h, true)};
+            case 12:
+                return new long[] {x.closes(0, w, h, -1), x.closes(0, w, h, 0)};
+            case 13:
+                return new long[] {x.sieve(0, w, h, 8, 8), x.sieve(0, 1, 1, w, h), x.sieve(0, w, h, w, h)};
+            default:
+                return new long[] {x.stout(0, w, h, false), x.stout(0, w, h, true)};
+        }
+    }
+
+    private static void sizesAre(WillowLaw x, int promise, int w, int h) {
+        for (long is : answersTo(x, promise, w, h)) {
+            DUE.is("of " + w + " " + h, is, promise == 7 ? -2 : -1);
+        }
     }
 
     private static void anotherSize() {
-        DUE.sentence("Promises 7, 11 to 13, 25", "or another size (1 to 8 each way)");
-        for (int no : NO_SIDE) {
-            WillowLaw closed = with(8, 8);
-            WillowLaw open = Due.with(0, allOpen(2, 2));
-            for (int side = 1; side <= 8; side++) {
-                sizesAreDue(closed, no, side);
-                sizesAreDue(open, side, no);
-            }
-            for (int other : NO_SIDE) {
-                sizesAreDue(closed, no, other);
+        int[] promises = {7, 11, 12, 13, 25};
+        for (int promise : promises) {
+            DUE.sentence("Promise " + promise, "or another size");
+            for (int no : NO_SIDE) {
+                WillowLaw closed = with(8, 8);
+                WillowLaw open = Due.with(0, allOpen(2, 2));
+                for (int side = 1; side <= 8; side++) {
+                    sizesAre(closed, promise, no, side);
+                    sizesAre(closed, promise, side, no);
+                    sizesAre(open, promise, no, side);
+                    sizesAre(open, promise, side, no);
+                }
+                for (int other : NO_SIDE) {
+                    sizesAre(closed, promise, no, other);
+                }
             }
         }
+        DUE.sentence("Promise 7", "another size (1 to 8 each way)");
         WillowLaw closed = with(8, 8);
         for (int w = 1; w <= 8; w++) {
             for (int h = 1; h <= 8; h++) {
@@ -290,6 +325,13 @@ public final class BasketEdgesTest {
         closesAre(Due.with(0, allOpen(8, 8)), 7, 7, 9);
         closesAre(Due.with(0, allOpen(8, 8)), 5, 5, 27);
         closesAre(Due.with(0, allOpen(8, 8)), 5, 4, 3, 35);
+        WillowLaw asked = Due.with(0, allOpen(3, 3));
+        notByThree(asked, 1, 1);
+        closesAre(asked, 2, 2, 4);
+        closesAre(asked, 3, 1, 0, 3, 6);
+        closesAre(asked, 3, 3, 0);
+        closesAre(asked, 4, 1);
+        closesAre(asked, 1, 3, 0, 1, 2);
     }
 
     private static void sieve() {
@@ -510,6 +552,8 @@ public final class BasketEdgesTest {
         String nines = thick("rod", 2, 9) + thick("stake", 2, 9);
         stoutIs(Due.with(0, "size 2 2;" + nines), 1, 1, -1, -1);
         stoutIs(Due.with(0, "size 2 2;" + nines), 2, 2, -1, -1);
+        stoutIs(Due.with(0, "size 8 2;" + thick("rod", 2, 9) + thick("stake", 8, 9)), 1, 1, -1, -1);
+        stoutIs(Due.with(0, "size 2 8;" + thick("rod", 8, 9) + thick("stake", 2, 9)), 1, 1, -1, -1);
         DUE.sentence("Term 6", "(one that is 9 can't)");
         stoutIs(Due.with(0, "size 2 2;" + nines + "stake 1 8 0;"), 2, 2, 9, 72);
         stoutIs(Due.with(0, "size 2 2;" + nines + "rod 1 8 0;"), 2, 2, 1, 72);
@@ -523,6 +567,8 @@ public final class BasketEdgesTest {
         stoutIs(with(3, 3), 1, 1, 0, 4);
         stoutIs(Due.with(0, "size 3 3;rod 1 1 0;"), 3, 1, 1, 12);
         stoutIs(Due.with(0, "size 3 3;stake 2 1 0;"), 1, 3, 10, 12);
+        stoutIs(Due.with(0, "size 2 8;rod 5 1 0;"), 2, 1, 5, 8);
+        stoutIs(Due.with(0, "size 8 2;stake 5 1 0;"), 1, 2, 13, 8);
         stoutIs(Due.with(0, "size 2 2;rod 0 0 9;rod 1 0 9;"), 2, 2, 0, 0);
         stoutIs(Due.with(0, "size 2 2;wet;"), 2, 2, 0, 8);
         stoutIs(Due.with(0, "size 2 2;rod 0 3 0;rod 1 3 0;wet;"), 2, 2, 0, 10);
@@ -594,6 +640,10 @@ public final class BasketEdgesTest {
         for (int i = 0; i < rows.length; i++) {
             DUE.is("the row of case " + i, with(8, 8, rows[i]).mirrored(0, 1), row[i]);
             DUE.is("the column of case " + i, with(8, 8, rows[i]).mirrored(0, 2), column[i]);
+        }
+        for (int s = 0; s < 64; s++) {
+            DUE.is("the row of " + s, with(8, 8, s).mirrored(0, 1), s / 8);
+            DUE.is("the column of " + s, with(8, 8, s).mirrored(0, 2), s % 8);
         }
         DUE.is("all OPEN, the row", Due.with(0, allOpen(8, 8)).mirrored(0, 1), 0);
         DUE.is("all OPEN, the column", Due.with(0, allOpen(8, 8)).mirrored(0, 2), 0);

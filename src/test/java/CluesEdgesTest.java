@@ -32,21 +32,24 @@ public final class CluesEdgesTest {
     }
 
     private static void noClues() {
-        DUE.sentence("Promises 21, 22", "there is none such");
-        for (int many = 0; many < 3; many++) {
-            WillowLaw x = new WillowLaw();
-            for (int i = 0; i < many; i++) {
-                Due.text(x, 3, -1, "open 0 0;");
-            }
-            int[] no = {-1, -2, many, many + 1, 2, LEAST, MOST};
-            int[] what = {0, 1, 2, 10, 20, 30, 100, 1000};
-            for (int c : no) {
-                for (int is : what) {
-                    DUE.is("clues(" + c + ", " + is + ")", x.clues(c, is), -1);
-                    DUE.is("gaps(" + c + ", " + is + ")", x.gaps(c, is), -2);
+        for (int promise = 21; promise <= 22; promise++) {
+            DUE.sentence("Promise " + promise, "there is none such");
+            for (int many = 0; many < 3; many++) {
+                WillowLaw x = new WillowLaw();
+                for (int i = 0; i < many; i++) {
+                    Due.text(x, 3, -1, "open 0 0;");
+                }
+                int[] no = {-1, -2, many, many + 1, 2, LEAST, MOST};
+                int[] what = {0, 1, 2, 10, 20, 30, 100, 1000};
+                for (int c : no) {
+                    for (int is : what) {
+                        long got = promise == 21 ? x.clues(c, is) : x.gaps(c, is);
+                        DUE.is("what " + is + " of CLUES " + c + " of " + many, got, promise == 21 ? -1 : -2);
+                    }
                 }
             }
         }
+        DUE.sentence("Term 1", "CLUES, at most 2 texts of them (3), from 0 on");
         WillowLaw x = Due.with(3, "size 2 2;");
         Due.text(x, 3, -1, "size 2 2;open 0 0;");
         DUE.is("CLUES 0 by themselves", x.gaps(0, 0), 9);
@@ -129,6 +132,9 @@ public final class CluesEdgesTest {
         WillowLaw x = Due.with(3, clues);
         for (int s = 0; s < due.length; s++) {
             DUE.is("SURE of " + s + " of '" + clues + "'", x.gaps(0, 100 + s), due[s]);
+        }
+        for (int s = due.length - 1; s >= 0; s--) {
+            DUE.is("SURE of " + s + " of '" + clues + "' once more", x.gaps(0, 100 + s), due[s]);
         }
         DUE.is("SURE of " + due.length + " of '" + clues + "'", x.gaps(0, 100 + due.length), -2);
     }

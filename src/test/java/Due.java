@@ -13,7 +13,7 @@ final class Due {
         this.test = test;
     }
 
-    /** The promise or the Term, and the words of the document, that the answers from here on are due by. */
+    /** The promise or the Term, and the document's words, shortened, that the answers from here on are due by. */
     void sentence(String where, String words) {
         closeSentence();
         sentences++;

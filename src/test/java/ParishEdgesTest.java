@@ -48,28 +48,39 @@ public final class ParishEdgesTest {
         }
     }
 
+    private static long[] answers(WillowLaw x, int promise, int p) {
+        switch (promise) {
+            case 18:
+                return new long[] {x.parish(p, 0), x.parish(p, 1), x.parish(p, 2), x.parish(p, 10), x.parish(p, 20)};
+            case 19:
+                return new long[] {x.cutting(p, -3), x.cutting(p, -2), x.cutting(p, -1), x.cutting(p, 0)};
+            case 20:
+                return new long[] {x.game(p, false, false), x.game(p, false, true), x.game(p, true, false), x.game(p, true, true)};
+            case 29:
+                return new long[] {x.divided(p, 1, -1), x.divided(p, 1, 0)};
+            default:
+                return new long[] {x.kept(p)};
+        }
+    }
+
     private static void noParish() {
-        DUE.sentence("Promises 18 to 20, 29, 30", "there is none such");
-        for (int many = 0; many < 3; many++) {
-            WillowLaw x = new WillowLaw();
-            for (int i = 0; i < many; i++) {
-                Due.text(x, 2, -1, "rod 5;need 2;");
-            }
-            int[] no = {-1, -2, many, many + 1, 2, LEAST, MOST};
-            for (int p : no) {
-                DUE.is("parish(" + p + ")", x.parish(p, 0), -1);
-                for (int k = -4; k < 2; k++) {
-                    DUE.is("cutting(" + p + ", " + k + ")", x.cutting(p, k), -1);
+        int[] promises = {18, 19, 20, 29, 30};
+        for (int promise : promises) {
+            DUE.sentence("Promise " + promise, "there is none such");
+            for (int many = 0; many < 3; many++) {
+                WillowLaw x = new WillowLaw();
+                for (int i = 0; i < many; i++) {
+                    Due.text(x, 2, -1, "rod 5;need 2;");
                 }
-                DUE.is("game(" + p + ")", x.game(p, false, false), -2);
-                DUE.is("game(" + p + "), first", x.game(p, false, true), -2);
-                DUE.is("losing(" + p + ")", x.game(p, true, false), -2);
-                DUE.is("losing(" + p + "), first", x.game(p, true, true), -2);
-                DUE.is("divided(" + p + ")", x.divided(p, 1, -1), -1);
-                DUE.is("divided(" + p + "), ROD 0", x.divided(p, 1, 0), -1);
-                DUE.is("kept(" + p + ")", x.kept(p), -1);
+                int[] no = {-1, -2, many, many + 1, 2, LEAST, MOST};
+                for (int p : no) {
+                    for (long is : answers(x, promise, p)) {
+                        DUE.is("PARISH " + p + " of " + many, is, promise == 20 ? -2 : -1);
+                    }
+                }
             }
         }
+        DUE.sentence("Term 1", "PARISHES, at most 2 (2), from 0 on");
         WillowLaw x = with(rods(9), 9);
         Due.text(x, 2, -1, "rod 4;rod 4;need 4;need 4;cut 4;");
         DUE.is("PARISH 0 by itself", x.cutting(0, -1), 1);
@@ -121,6 +132,7 @@ public final class ParishEdgesTest {
         cuttingIs(with(rods(2, 6, 6), 6, 2, 4), 2, 0, 3, 1, 2, 2);
         cuttingIs(with(rods(6, 6), 1, 1, 1), 1, 3, 3, 0, 0, 0);
         cuttingIs(with(rods(6, 6), 5, 1, 1, 1), 2, 4, 4, 0, 0, 1, 1);
+        cuttingIs(with(rods(4, 9), 3, 1, 4), 1, 1, 3, 1, 1, 1);
         DUE.sentence("Term 4", "SPARE: how little can be left in all of the RODS that are cut (of however many RODS)");
         cuttingIs(with(rods(10, 4, 3), 4, 3), 1, 0, 2, 0, 0);
         cuttingIs(with(rods(10, 6, 5), 4, 5), 1, 1, 2, 0, 0);
@@ -132,6 +144,12 @@ public final class ParishEdgesTest {
         cuttingIs(with(rods(6), 5, 2, 2, 2), -1, -1, 3, -1, -1, -1, -1);
         cuttingIs(with(rods(4, 4), 3, 3, 3, 1), -1, -1, 3, -1, -1, -1, -1);
         cuttingIs(with(rods(5, 3), 5, 3, 4), -1, -1, 2, -1, -1, -1);
+        DUE.is("asked first", with(rods(5, 3), 5, 3, 4).cutting(0, -3), 2);
+        WillowLaw x = with(rods(5, 3), 5, 3, 4);
+        Due.text(x, 2, -1, "rod 60;" + "need 1;".repeat(8));
+        DUE.is("asked behind another PARISH's", x.cutting(1, -3) - x.cutting(0, -3), 6);
+        DUE.is("SPARE asked first", with(rods(5, 3), 4, 2).cutting(0, -2), 2);
+        DUE.is("the ROD asked first", with(rods(5, 3), 4, 2).cutting(0, 1), 1);
     }
 
     private static void kept() {

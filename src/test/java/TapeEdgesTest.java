@@ -217,6 +217,54 @@ public final class TapeEdgesTest {
         }
     }
 
+    /** A text is told by itself: nothing of a former one, or of one with a FAULT, is in it. */
+    private static void eachByItself() {
+        DUE.sentence("Promise 4", "The tape is taken as a text (and that alone tells it)");
+        String[] full = {"size 8 8;open 7 7;rod 0 9 9;rod 7 9 9;stake 0 9 9;stake 7 9 9;wet;", "winter;".repeat(40),
+            "rod 9;".repeat(6) + "need 9;".repeat(8) + "cut 9;", "size 8 8;" + "shut 7 7;".repeat(10)};
+        for (int sort = 0; sort < 4; sort++) {
+            WillowLaw x = new WillowLaw();
+            DUE.is("a full one", Due.text(x, sort, -1, full[sort]), 0);
+            DUE.is("a full one with a FAULT", Due.text(x, sort, -1, full[sort] + ";"), -1);
+            DUE.is("an empty one", x.text(sort, -1), 1);
+            for (int what = 0; what < 140; what++) {
+                String of = "what " + what + " of an empty one of sort " + sort;
+                DUE.is(of, told(x, sort, 1, what), toldAtFirst(sort, what));
+            }
+            DUE.is("the full one stays", mark(x, sort, 0), sort == 0 ? 8 : sort == 1 ? 40 : sort == 2 ? 6 : 10);
+        }
+    }
+
+    private static int told(WillowLaw x, int sort, int at, int what) {
+        switch (sort) {
+            case 0:
+                return x.basket(at, what);
+            case 1:
+                return x.deed(at, what - 1, 0);
+            case 2:
+                return x.parish(at, what);
+            default:
+                return x.clues(at, what);
+        }
+    }
+
+    private static int toldAtFirst(int sort, int what) {
+        if (sort == 0) {
+            int unit = what % 10;
+            boolean twig = what >= 10 && what < 50 && unit < 6;
+            int ofTwig = what / 10 % 2 == 1 ? 2 : 0;
+            int rest = what >= 100 && what < 136 ? 4 : -2;
+            return what < 2 ? 6 : what < 4 ? 0 : twig ? ofTwig : rest;
+        }
+        if (sort == 1) {
+            return what == 0 ? 0 : -2;
+        }
+        if (sort == 2) {
+            return what < 2 ? 0 : what == 2 ? 3 : -1;
+        }
+        return what < 2 ? 6 : what == 2 ? 0 : -1;
+    }
+
     private static void aFault() {
         DUE.sentence("Promise 4", "NONE: a FAULT");
         for (int sort = 0; sort < 4; sort++) {
@@ -315,7 +363,8 @@ public final class TapeEdgesTest {
         Due.tell(x, Due.bytes("wet;dry;"));
         x.image(1);
         for (int sort = 0; sort < 4; sort++) {
-            DUE.is("tape and FAULT: end", x.end(0), 0);
+            DUE.is("other bytes on the tape", x.feed(-1, -1, -1, -1, -1), sort == 0 ? 28 : 20);
+            DUE.is("and none", x.end(0), 0);
             x.text(sort, -1);
             x.text(sort, 0);
         }
@@ -374,6 +423,7 @@ public final class TapeEdgesTest {
         placesOfTexts();
         noneSuch();
         asManyAsMayBe();
+        eachByItself();
         aFault();
         counts();
         imagesThatAreNot();

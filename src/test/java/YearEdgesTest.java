@@ -70,37 +70,58 @@ public final class YearEdgesTest {
 
     // ---- none such ----
 
-    private static void noneIs(WillowLaw x, int basket, int year) {
-        String of = "(" + basket + ", " + year + ")";
-        DUE.is("till" + of, x.till(basket, year), -1);
-        DUE.is("state" + of, x.state(basket, year, 0, 0), -2);
-        DUE.is("precedent" + of, x.precedent(basket, year, 1, 1), -2);
+    private static long[] answers(WillowLaw x, int promise, int basket, int year) {
+        switch (promise) {
+            case 8:
+                return new long[] {x.deed(year, -1, 0), x.deed(year, 0, 0), x.deed(year, 0, 3)};
+            case 9:
+                return new long[] {x.till(basket, year)};
+            case 10:
+                return new long[] {x.state(basket, year, 0, 0), x.state(basket, year, 0, 5), x.state(basket, year, 0, 100)};
+            case 23:
+                return new long[] {x.drawn(basket, 1, 0, 0), x.drawn(basket, 1, 1, 3), x.drawn(basket, 1, 60, 100)};
+            default:
+                return new long[] {x.precedent(basket, year, 1, 1)};
+        }
+    }
+
+    private static void noneIs(WillowLaw x, int promise, int basket, int year) {
+        for (long is : answers(x, promise, basket, year)) {
+            DUE.is("of BASKET " + basket + ", YEAR " + year, is, promise == 9 ? -1 : -2);
+        }
+    }
+
+    private static WillowLaw withSoMany(int baskets, int years) {
+        WillowLaw x = new WillowLaw();
+        for (int i = 0; i < baskets; i++) {
+            x.text(0, -1);
+        }
+        for (int i = 0; i < years; i++) {
+            Due.text(x, 1, -1, "winter;");
+        }
+        return x;
     }
 
     private static void noneSuch() {
-        DUE.sentence("Promises 8 to 10, 23, 24", "there is none such (of either)");
-        for (int many = 0; many < 3; many++) {
-            WillowLaw x = new WillowLaw();
-            WillowLaw full = new WillowLaw();
-            for (int i = 0; i < 2; i++) {
-                full.text(0, -1);
-                full.text(1, -1);
-                if (i < many) {
-                    x.text(0, -1);
-                    x.text(1, -1);
+        int[] promises = {8, 9, 10, 23, 24};
+        for (int promise : promises) {
+            DUE.sentence("Promise " + promise, promise == 23 ? "there is none such" : "there is none such (of either)");
+            for (int many = 0; many < 3; many++) {
+                int[] no = {-1, -2, many, many + 1, 2, LEAST, MOST};
+                for (int i : no) {
+                    if (promise != 8) {
+                        noneIs(withSoMany(many, 2), promise, i, 0);
+                        noneIs(withSoMany(many, 2), promise, i, 1);
+                    }
+                    if (promise != 23) {
+                        noneIs(withSoMany(2, many), promise, 0, i);
+                        noneIs(withSoMany(2, many), promise, 1, i);
+                    }
+                    noneIs(withSoMany(many, many), promise, i, i);
                 }
             }
-            int[] no = {-1, -2, many, many + 1, 2, LEAST, MOST};
-            for (int i : no) {
-                noneIs(x, i, 0);
-                noneIs(x, 0, i);
-                noneIs(x, i, i);
-                DUE.is("drawn of BASKET " + i, x.drawn(i, 1, 1, 0), -2);
-                DUE.is("deed of YEAR " + i, x.deed(i, -1, 0), -2);
-                DUE.is("deed 0 of YEAR " + i, x.deed(i, 0, 0), -2);
-            }
-            DUE.is("till(1, 1) of two", full.till(1, 1), 0);
         }
+        DUE.sentence("Term 1", "BASKETS, at most 2 (sort 0), YEARS, at most 2 (1), from 0 on");
         WillowLaw x = with("", "wet;");
         Due.text(x, 0, -1, "wet;");
         Due.text(x, 1, -1, "dry;");
@@ -108,9 +129,6 @@ public final class YearEdgesTest {
         for (int[] p : pairs) {
             DUE.is("till(" + p[0] + ", " + p[1] + ")", x.till(p[0], p[1]), p[2]);
         }
-        DUE.sentence("Promise 9", "NONE: there is none such (of either)");
-        DUE.is("a BASKET alone", Due.with(0, "").till(0, 0), -1);
-        DUE.is("a YEAR alone", Due.with(1, "").till(0, 0), -1);
     }
 
     // ---- deeds ----
